@@ -285,7 +285,10 @@ public final class BallastSteps {
 
   public int tell(int t) {
     if (!isTank(t)) return UNKNOWN;
-    return telling(vessel.tanks[t].kind, vessel.tanks[t].mass);
+    Tank tank = vessel.tanks[t];
+    if (tank.kind == WIDE) return wideTelling(tank.mass);
+    if (tank.kind == DOUBLE) return doubleTelling(tank.mass);
+    return plainTelling(tank.mass);
   }
 
   public int sound(int t) {
@@ -473,11 +476,19 @@ public final class BallastSteps {
     traced = 31 * traced + body;
   }
 
-  private int telling(int kind, int mass) {
-    leave(kind + 1);
-    if (kind == WIDE) return telling(PLAIN, mass) + 100;
-    if (kind == DOUBLE) return telling(WIDE, mass) + telling(PLAIN, mass);
+  private int plainTelling(int mass) {
+    leave(1);
     return mass;
+  }
+
+  private int wideTelling(int mass) {
+    leave(2);
+    return plainTelling(mass) + 100;
+  }
+
+  private int doubleTelling(int mass) {
+    leave(3);
+    return wideTelling(mass) + plainTelling(mass);
   }
 
   private int lentSounding(Tank tank) {
@@ -763,7 +774,7 @@ public final class BallastSteps {
       steps[ship.waters] = 0;
       ways[ship.waters] = 1;
       reached = 1;
-      for (int q = 0; q < reached; q++) {
+      for (int q = 0; q < reached && q < ALL_WATERS; q++) {
         int waters = queue[q];
         int tanks = pumpable[ship.fullSet(waters)];
         for (int t = 0; t < ship.count; t++) {
@@ -774,7 +785,7 @@ public final class BallastSteps {
 
     private void step(int waters, int t) {
       int then = pumped(waters, t);
-      if (steps[then] == NONE) {
+      if (steps[then] == NONE && reached < ALL_WATERS) {
         steps[then] = steps[waters] + 1;
         ways[then] = 0;
         before[then] = waters;
