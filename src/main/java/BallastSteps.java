@@ -612,10 +612,9 @@ public final class BallastSteps {
     }
 
     boolean isWithin(int[] bounds, int times) {
-      for (int k = 0; k < BOUNDS; k++) {
-        if (bounded(k) > times * bounds[k]) return false;
-      }
-      return true;
+      return Math.abs(trim) <= times * bounds[0]
+          && Math.abs(heel) <= times * bounds[1]
+          && bending() <= times * bounds[2];
     }
   }
 

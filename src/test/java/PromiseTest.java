@@ -513,6 +513,14 @@ public final class PromiseTest {
     x.due(0);
     due("the empty plan: now", x.worst(0), 3);
     due("the empty plan: now", x.worst(1), 1);
+    // All ends otherwise than it is now, for an empty tank is due.
+    tellShip(x, "s;P0p2o;P6s2e");
+    x.due(2);
+    due("TRIM -6 now, 0 behind", x.worst(0), 6);
+    due("HEEL -2 now, 0 behind", x.worst(1), 2);
+    due("BENDING 42 now, 18 behind", x.worst(2), 42);
+    x.pump(0);
+    due("TRIM 0 now, 6 behind", x.worst(0), 6);
   }
 
   private static void readings() {
@@ -829,6 +837,9 @@ public final class PromiseTest {
     x.reading(1);
     x.due(1);
     dueMany(x, "two in", 4, 4, 2, 1, 2);
+    tellShip(x, "s;P1p4o;W5c4e;D3s4o;P2c2o;P2c2e;P2c2e");
+    x.pump(5);
+    dueMany(x, "six", 6, 4, 1, 3, 0);
     due("many(-1)", x.many(-1), BallastSteps.OUTSIDE);
     due("many(5)", x.many(5), BallastSteps.OUTSIDE);
   }
@@ -837,8 +848,10 @@ public final class PromiseTest {
   private static void staleAnswers() {
     BallastSteps x = shipOf("s;P1c4o;P5c4o");
     duePlan(x, "at first", 0, 0, 1, 1);
+    x.bound(0, 7);
+    due("bound anew", x.plan(-1), BallastSteps.NONE);
     x.mass(0, 1);
-    due("mass anew", x.worst(0), 8);
+    duePlan(x, "mass anew", 1, 0, 0, 1);
     x.bound(0, 5);
     due("bound anew", x.plan(-1), BallastSteps.NONE);
     x.bound(0, 8);
