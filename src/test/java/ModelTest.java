@@ -722,9 +722,93 @@ public final class ModelTest {
     }
   }
 
+  // ---- all edges of all arguments at once, so that any two refusals or faults meet
+
+  private static final int MIN = Integer.MIN_VALUE, MAX = Integer.MAX_VALUE;
+  private static final int BEGINNINGS = 4;
+  private static final int[] SHEETS = {-1, 0, 1, 2, 3, 4};
+  private static final int[] LANES = {-1, 0, 1, 2, 3};
+  private static final int[] PLACES = {MIN, -1, 0, 1, 2, 3, 7, 8, MAX};
+  private static final int[] TANKS = {MIN, -1, 0, 1, 5, 6, 31, 32, MAX};
+
+  private static int[][] edgesOf(String name) {
+    switch (name) {
+      case "ship": return new int[][] {SHEETS, LANES, PLACES, {MIN, -1, 0, 1, 6, 7, 8, 37, 60, 61, MAX}};
+      case "ofTank": return new int[][] {TANKS, {MIN, -1, 0, 1, 2, 3, 4, 5, 6, 7, 8, 9, MAX}};
+      case "mass": return new int[][] {TANKS, {MIN, -1, 0, 1, 9, 10, MAX}};
+      case "bound": return new int[][] {{MIN, -1, 0, 1, 2, 3, MAX}, {MIN, -1, 0, 1, 999, 1000, MAX}};
+      case "due": return new int[][] {{MIN, -64, -1, 0, 1, 2, 3, 63, 64, 65, MAX}};
+      case "measure": return new int[][] {{MIN, -1, 0, 1, 2, 3, 4, MAX}};
+      case "moment": return new int[][] {{MIN, -1, 0, 1, 5, 6, 7, MAX}};
+      case "plan": return new int[][] {{MIN, -2, -1, 0, 1, 11, 12, 19, 20, MAX}};
+      case "day": return new int[][] {SHEETS, LANES, PLACES, {MIN, -1, 0, 1, 2, 3, 30, 31, MAX},
+        {MIN, -1, 0, 1, 2, 3, 4, 5, 9, 10, 11, 15, 16, MAX}};
+      case "worst": return new int[][] {{MIN, -1, 0, 1, 2, 3, MAX}};
+      case "reading": return new int[][] {{MIN, -501, -500, 0, 500, 501, MAX}};
+      case "back": return new int[][] {{MIN, -1, 0, 1, 7, 8, 9, MAX}};
+      case "odds": return new int[][] {{MIN, -1, 0, 1, 2, MAX}};
+      case "sheet": return new int[][] {SHEETS, LANES, {MIN, -1, 0, 1, 59, 60, 61, MAX}};
+      case "lose": return new int[][] {SHEETS};
+      case "put": return new int[][] {SHEETS, PLACES, {MIN, -129, -128, 127, 128, 32767, 32768, MAX}};
+      case "cell": return new int[][] {SHEETS, PLACES, LANES};
+      case "copy": return new int[][] {SHEETS, PLACES, SHEETS, PLACES, {MIN, -1, 0, 1, 2, 3, 7, 8, MAX}};
+      case "as": return new int[][] {TANKS, {MIN, -1, 0, 1, 2, 3, MAX}};
+      case "many": return new int[][] {{MIN, -1, 0, 1, 2, 3, 4, 5, MAX}};
+      case "plans": case "states": case "trace": case "fault": return new int[][] {};
+      default: return new int[][] {TANKS};
+    }
+  }
+
+  private void fill(int k, int lane, String text) {
+    call("sheet", k, lane, text.length());
+    for (int i = 0; i < text.length(); i++) call("put", k, i, text.charAt(i));
+  }
+
+  /** A new object; one with rows alone; one tank; six tanks, with a fault told last and all READINGS. */
+  private void begin(int how) {
+    if (how == 0) return;
+    if (how > 1) {
+      String text = how == 2 ? "s;D0c1o" : "s;P0p1o;W6s2e;D3c3o;P1p4o;W5s5e;D4c1o";
+      fill(0, 0, text);
+      call("ship", 0, 0, 0, text.length());
+    }
+    fill(0, 0, "s;W6s1e");
+    fill(1, 1, "\u0000\u0001\u0007");
+    fill(2, 2, how == 1 ? "" : "\u0001\u0000");
+    if (how < 3) return;
+    call("lose", 2);
+    call("bound", 0, 20);
+    call("pump", 0);
+    call("fail", 2);
+    for (int r = 0; r < 8; r++) call("reading", m.measure(0) - 1000);
+    call("put", 2, 0, 0);
+  }
+
+  private static void tryEdges(String name) {
+    int[][] edges = edgesOf(name);
+    int all = 1;
+    for (int[] of : edges) all *= of.length;
+    for (int how = 0; how < BEGINNINGS; how++) {
+      for (int draw = 0; draw < all; draw++) {
+        int[] args = new int[edges.length];
+        int rest = draw;
+        for (int a = 0; a < args.length; a++) {
+          args[a] = edges[a][rest % edges[a].length];
+          rest /= edges[a].length;
+        }
+        ModelTest one = new ModelTest(-1 - how);
+        one.begin(how);
+        one.call(name, args);
+        one.call("fault");
+        for (int w = 0; w < 5; w++) one.call("many", w);
+      }
+    }
+  }
+
   public static void main(String[] args) {
     for (int run = 0; run < RUNS; run++) new ModelTest(run).goOn();
+    for (String name : NAMES) tryEdges(name);
     if (wrong != 0) System.exit(1);
-    System.out.println(RUNS + " runs agree with the model");
+    System.out.println(RUNS + " runs and all edges agree with the model");
   }
 }
